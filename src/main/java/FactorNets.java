@@ -561,7 +561,7 @@ public final class FactorNets {
         whatIf.net.become(now.net);
         whatIf.net.link(point, other);
         whatIf.forget();
-        return partsThen();
+        return whatIf.partCount();
     }
 
     public int loosest() {
@@ -826,7 +826,7 @@ public final class FactorNets {
         whatIf.net.become(now.net);
         whatIf.net.unlink(now.lines.low[line], now.lines.high[line]);
         whatIf.forget();
-        return whatIf.net.connected() ? partsThen() : NONE;
+        return whatIf.net.connected() ? whatIf.partCount() : NONE;
     }
 
     private int findLoosest() {
@@ -841,16 +841,6 @@ public final class FactorNets {
             }
         }
         return found;
-    }
-
-    // A product of a points by b has at most a * b * (a + b - 2) / 2 lines, the most of them
-    // where a is 2; a net with more, or with a prime number of points, needs no sorting.
-    private int partsThen() {
-        int n = whatIf.net.points;
-        if (whatIf.net.lineCount() * 4 > n * n || primeFactors(n) == 1) {
-            return 1;
-        }
-        return whatIf.partCount();
     }
 
     private void writePart(int part) {
@@ -1533,8 +1523,13 @@ public final class FactorNets {
             return sorts;
         }
 
-        // For a net that is asked nothing else: it is not sorted by this.
+        // For a net that is asked nothing else: it is not sorted by this. A product of a points
+        // by b has at most a * b * (a + b - 2) / 2 lines, the most of them where a is 2; a net
+        // with more, or with a prime number of points, needs no sorting.
         int partCount() {
+            if (net.lineCount() * 4 > net.points * net.points || primeFactors(net.points) == 1) {
+                return 1;
+            }
             return sorts.countParts(net, measured(), numbered());
         }
     }
