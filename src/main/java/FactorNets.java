@@ -42,7 +42,6 @@ public final class FactorNets {
     private final long[][] matrix = new long[MOST_POINTS][MOST_POINTS];
     private final char[] told = new char[MOST_TOLD];
     private int toldBytes;
-    private int textLines;
     private boolean partsKnown;
     private boolean chainKnown;
     private int loosestLine = NO_SUCH;
@@ -85,8 +84,7 @@ public final class FactorNets {
             return REFUSED;
         }
         now.net.become(reader.net);
-        acts.count = 0;
-        textLines = reader.statements;
+        acts.begin(reader.statements);
         forget();
         return now.net.points;
     }
@@ -102,7 +100,7 @@ public final class FactorNets {
         switch (what) {
             case 0: return now.net.points;
             case 1: return now.net.lineCount();
-            case 2: return textLines;
+            case 2: return acts.textLines;
             case 3: return now.sorted().parts;
             case 4: return now.sorted().sides;
             case 5: return acts.count;
@@ -1274,13 +1272,23 @@ public final class FactorNets {
         }
     }
 
-    /** Nets as they were before each act; an image has the net itself on top of them. */
+    /**
+     * How a net came to be: the lines of the text that told it, and the nets before each act;
+     * an image has the net itself on top of them.
+     */
     private static final class Past {
+        int textLines;
         int count;
         private final int[] points = new int[MOST_ACTS + 1];
         private final int[][] rows = new int[MOST_ACTS + 1][MOST_POINTS];
 
+        void begin(int statements) {
+            textLines = statements;
+            count = 0;
+        }
+
         void become(Past other) {
+            textLines = other.textLines;
             count = other.count;
             for (int i = 0; i < count; i++) {
                 points[i] = other.points[i];

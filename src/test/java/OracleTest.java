@@ -300,6 +300,7 @@ public final class OracleTest {
         StringBuilder tape = new StringBuilder();
         String out = "";
         int textLines;
+        final int[] imageTextLines = new int[3];
         int fault;
         int place = -1;
         private boolean[][] movesOf;
@@ -1180,6 +1181,7 @@ public final class OracleTest {
                     }
                     imageNets[a[0]] = copy(net);
                     imageActs.set(a[0], copies(acts));
+                    imageTextLines[a[0]] = textLines;
                     return 0;
                 }
                 case "undo": {
@@ -1217,6 +1219,7 @@ public final class OracleTest {
             }
             net = copy(imageNets[k]);
             acts = copies(imageActs.get(k));
+            textLines = imageTextLines[k];
             return 0;
         }
     }

@@ -817,6 +817,7 @@ public final class PromiseTest {
         due("none", x.net(), 0);
         due("back(0) behind none", x.back(0), 0);
         due("count(1)", x.count(1), 5);
+        textLinesOfImages();
 
         promise = 60;
         due("undo()", x.undo(), 0);
@@ -837,5 +838,48 @@ public final class PromiseTest {
         due("count(5)", x.count(5), 0);
         due("count(1)", x.count(1), 4);
         due("anew() without a net", new FactorNets().anew(), -2);
+    }
+
+    // The lines of the text go with the net: kept by an image, brought back, not changed by acts.
+    private static void textLinesOfImages() {
+        FactorNets x = new FactorNets();
+        told(x, "row 2;row 3;line 0 5;");
+        x.image(0);
+        told(x, "ring 5;");
+        due("count(2) of another text", x.count(2), 1);
+        x.image(1);
+        x.join(0, 2);
+        x.image(2);
+        due("count(2) behind image()", x.count(2), 1);
+        x.back(0);
+        due("count(2) behind back(0)", x.count(2), 3);
+        x.cut(0);
+        x.undo();
+        x.join(0, 3);
+        x.anew();
+        due("count(2) behind acts", x.count(2), 3);
+        told(x, "row 9");
+        told(x, "net points 2;");
+        due("count(2) behind texts that told none", x.count(2), 3);
+        x.back(2);
+        due("count(2) behind back(2)", x.count(2), 1);
+        x.undo();
+        due("count(2) behind undo()", x.count(2), 1);
+        due("no net", x.net(), 0);
+        due("count(2) of none", x.count(2), 0);
+        x.back(1);
+        due("count(2) behind back(1)", x.count(2), 1);
+        told(x, "net points 1;");
+        x.image(1);
+        told(x, "full 2;line 0 1;");
+        due("count(2) of one point", x.count(2), 1);
+        x.back(0);
+        due("count(2) behind back(0) again", x.count(2), 3);
+        due("back() of no image", x.back(3), -2);
+        due("count(2) then", x.count(2), 3);
+        FactorNets y = new FactorNets();
+        told(y, "ring 4;line 0 2;");
+        due("back() of an empty image", y.back(0), -6);
+        due("count(2) stays", y.count(2), 2);
     }
 }
