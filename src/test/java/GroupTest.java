@@ -4,31 +4,6 @@ import java.util.Random;
 
 /** Nets whose groups are too large to list: known orders, and answers that must fit together. */
 public final class GroupTest {
-    private static int checks = 0;
-    private static int wrong = 0;
-
-    private static void due(String what, long got, long want) {
-        checks++;
-        if (got != want) {
-            wrong++;
-            System.out.println(what + " answered " + got + ", due is " + want);
-        }
-    }
-
-    private static FactorNets of(String text) {
-        FactorNets x = new FactorNets();
-        for (int i = 0; i < text.length(); i += 20) {
-            int[] words = new int[5];
-            for (int j = 0; j < 20 && i + j < text.length(); j++) {
-                words[j / 4] |= (text.charAt(i + j) & 255) << 24 - 8 * (j % 4);
-            }
-            x.feed(words[0], words[1], words[2], words[3], words[4]);
-        }
-        x.end(text.length());
-        due("net() of " + text, x.net() > 0 ? 1 : 0, 1);
-        return x;
-    }
-
     private static String shuffled(int n, List<int[]> lines, Random random) {
         List<Integer> to = new ArrayList<>();
         for (int p = 0; p < n; p++) {
@@ -44,8 +19,8 @@ public final class GroupTest {
     private static void dueOrder(String name, int n, List<int[]> lines, long order) {
         Random random = new Random(n);
         for (int i = 0; i < 5; i++) {
-            FactorNets x = of(shuffled(n, lines, random));
-            due("allSymmetries() of " + name, x.allSymmetries(), order);
+            FactorNets x = Texts.of(shuffled(n, lines, random));
+            Checks.due("allSymmetries() of " + name, x.allSymmetries(), order);
             fitsTogether(name, x, n, random);
         }
     }
@@ -55,24 +30,24 @@ public final class GroupTest {
         int orbits = 0;
         for (int p = 0; p < n; p++) {
             int orbit = x.orbit(p);
-            due(name + ": fixers times orbit", x.fixers(p) * Integer.bitCount(orbit), order);
+            Checks.due(name + ": fixers times orbit", x.fixers(p) * Integer.bitCount(orbit), order);
             orbits += Integer.numberOfTrailingZeros(orbit) == p ? 1 : 0;
             int q = random.nextInt(n);
-            due(name + ": takes as orbit", x.takes(p, q, p, q), orbit >> q & 1);
+            Checks.due(name + ": takes as orbit", x.takes(p, q, p, q), orbit >> q & 1);
         }
-        due(name + ": orbits", x.orbits(), orbits);
+        Checks.due(name + ": orbits", x.orbits(), orbits);
         for (int i = 0; i < 10; i++) {
             long k = Math.floorMod(random.nextLong(), order);
             int[] one = symmetry(name, x, k, n);
             if (k + 1 < order) {
-                due(name + ": in order", before(one, symmetry(name, x, k + 1, n)) ? 1 : 0, 1);
+                Checks.due(name + ": in order", before(one, symmetry(name, x, k + 1, n)) ? 1 : 0, 1);
             }
             int p = random.nextInt(n);
             int q = random.nextInt(n);
-            due(name + ": takes what it takes", x.takes(p, one[p], q, one[q]), 1);
+            Checks.due(name + ": takes what it takes", x.takes(p, one[p], q, one[q]), 1);
         }
-        due(name + ": none so late", x.moves(order, 0), -1);
-        due(name + ": orders of parts", ordersOfParts(x), order);
+        Checks.due(name + ": none so late", x.moves(order, 0), -1);
+        Checks.due(name + ": orders of parts", ordersOfParts(x), order);
     }
 
     private static int[] symmetry(String name, FactorNets x, long k, int n) {
@@ -82,10 +57,10 @@ public final class GroupTest {
             to[p] = x.moves(k, p);
             seen |= 1 << to[p];
         }
-        due(name + ": all places taken", seen, (1 << n) - 1);
+        Checks.due(name + ": all places taken", seen, (1 << n) - 1);
         for (int p = 0; p < n; p++) {
             for (int q = 0; q < p; q++) {
-                due(name + ": distance stays", x.far(to[p], to[q]), x.far(p, q));
+                Checks.due(name + ": distance stays", x.far(to[p], to[q]), x.far(p, q));
             }
         }
         return to;
@@ -185,13 +160,10 @@ public final class GroupTest {
             "row 2;row 2;row 2;row 2;", "row 2;row 5;row 2;", "full 4;ring 5;", "full 6;full 3;",
             "net points 5;line 0 1;line 0 2;line 0 3;line 0 4;full 4;", "row 3;ring 6;"};
         for (String text : products) {
-            FactorNets x = of(text);
+            FactorNets x = Texts.of(text);
             fitsTogether(text, x, x.count(0), new Random(text.length()));
         }
 
-        System.out.println(checks + " checks, " + wrong + " wrong");
-        if (wrong != 0) {
-            System.exit(1);
-        }
+        Checks.end();
     }
 }
