@@ -1,4 +1,5 @@
 import java.util.function.Consumer;
+import java.util.function.ToIntFunction;
 
 /** Promises 51 to 61: a line less, a line more, acts, images, what is taken back. */
 final class ActBounds {
@@ -38,6 +39,20 @@ final class ActBounds {
         State before = State.of(x);
         act.accept(x);
         before.dueStill(call, x);
+    }
+
+    /** What was answered ahead of an act must not be answered behind it. */
+    private static void dueAsTold(String call, String text, ToIntFunction<FactorNets> act) {
+        dueAsTold(call, text, x -> 0, act);
+    }
+
+    private static void dueAsTold(String call, String text, ToIntFunction<FactorNets> ahead,
+            ToIntFunction<FactorNets> act) {
+        FactorNets x = Texts.of(text);
+        Checks.due(call + ", what is done ahead of it", ahead.applyAsInt(x) < 0 ? 1 : 0, 0);
+        Answers.of(x);
+        Checks.due(call + ", refused", act.applyAsInt(x) < 0 ? 1 : 0, 0);
+        Answers.dueAsTold(call, x);
     }
 
     private static void withoutPromise() {
@@ -102,7 +117,8 @@ final class ActBounds {
         Checks.due("loosest() of full 20, all alike", Texts.of("full 20;").loosest(), 0);
         Checks.due("loosest() of ring 20", Texts.of("ring 20;").loosest(), 0);
         // LINE 0 may not go.
-        Checks.due("loosest() behind a tail", Texts.of("net points 4;line 0 1;line 1 2;line 2 3;line 3 1;").loosest(), 1);
+        FactorNets tail = Texts.of("net points 4;line 0 1;line 1 2;line 2 3;line 3 1;");
+        Checks.due("loosest() behind a tail", tail.loosest(), 1);
         FactorNets cube = Texts.of("row 2;row 2;row 2;row 2;line 0 15;");
         Checks.due("loosest() of a cube and a LINE", cube.loosest(), cube.between(0, 15));
         // Without the LINE 0 5, or 0 1, the net is a grid: of those the least.
@@ -132,6 +148,7 @@ final class ActBounds {
         FactorNets almost = Texts.of("full 20;");
         almost.cut(189);
         Checks.due("join(19, 18), the last LINE", almost.join(19, 18), 190);
+        dueAsTold("join()", "row 5;row 2;", y -> y.join(0, 9));
 
         Document.says("-2; -5: there is one, they are one, there were 20 acts.");
         dueIdle("join() of a LINE", x, y -> Checks.due("join(0, 3)", y.join(0, 3), -5));
@@ -167,6 +184,7 @@ final class ActBounds {
         Checks.due("between(0, 2), the first one now", full.between(0, 2), 0);
         Checks.due("count(5)", full.count(5), 2);
         Checks.due("cut(0) of ring 3", Texts.of("ring 3;").cut(0), 2);
+        dueAsTold("cut()", "row 3;row 3;", y -> y.cut(0));
 
         Document.says("-2: there is none such;");
         FactorNets x = Texts.of("ring 5;");
@@ -216,6 +234,8 @@ final class ActBounds {
                 }
             }
         }
+
+        dueAsTold("times()", "ring 5;", y -> y.times(0, 3));
 
         Document.says("-2: there are none such, no NET;");
         FactorNets x = Texts.of("row 2;");
@@ -276,6 +296,7 @@ final class ActBounds {
         FactorNets cube = Texts.of("row 2;row 2;row 2;row 2;");
         Checks.due("keep(3) of a cube", cube.keep(3), 2);
         Checks.due("count(3)", cube.count(3), 1);
+        dueAsTold("keep()", "row 2;ring 5;", y -> y.keep(1));
 
         Document.says("-2: there is none such;");
         FactorNets y = Texts.of("row 3;ring 5;");
@@ -373,6 +394,8 @@ final class ActBounds {
         Checks.due("undo()", x.undo(), 2);
         Checks.due("undo()", x.undo(), 1);
         kept.dueStill("undo()", x);
+        dueAsTold("back()", "ring 6;", y -> y.image(1) + y.join(0, 3), y -> y.back(1));
+        otherActsOverIt();
         // The TAPE and OUT are not of it.
         x.tell();
         Texts.feed(x, "row");
@@ -392,6 +415,22 @@ final class ActBounds {
         }
         Checks.due("back(1), not kept", x.back(1), -6);
         before.dueStill("refused ones", x);
+    }
+
+    // Acts of another net, as many, must not show in those that the image keeps, nor those in it.
+    private static void otherActsOverIt() {
+        FactorNets x = acted(6);
+        x.image(1);
+        Texts.told(x, "full 4;");
+        for (int i = 0; i < 7; i++) {
+            x.times(0, 2);
+            x.keep(1);
+        }
+        x.back(1);
+        for (int acts = 5; acts >= 0; acts--) {
+            Checks.due("undo() behind back(1)", x.undo(), acts);
+            State.of(acted(acts)).dueStill("undo() behind back(1)", x);
+        }
     }
 
     private static int act(FactorNets x, int number) {
@@ -432,6 +471,7 @@ final class ActBounds {
         mixed.times(0, 2);
         Checks.due("undo() of a later act", mixed.undo(), 0);
         Checks.due("count(1)", mixed.count(1), 2);
+        dueAsTold("undo()", "row 4;", y -> y.times(2, 3), FactorNets::undo);
 
         Document.says("-2: there is no NET;");
         FactorNets none = new FactorNets();
@@ -470,6 +510,7 @@ final class ActBounds {
         full.anew();
         Checks.due("an act behind it", full.times(0, 10), 20);
         Checks.due("count(5)", full.count(5), 1);
+        dueAsTold("anew()", "row 4;", y -> y.times(2, 3) + y.join(0, 11), FactorNets::anew);
 
         Document.says("-2 likewise.");
         FactorNets none = new FactorNets();

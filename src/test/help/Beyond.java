@@ -1,4 +1,4 @@
-import java.util.Arrays;
+import java.util.stream.IntStream;
 
 /** Calls with numbers that are beyond what there is. */
 final class Beyond {
@@ -15,15 +15,9 @@ final class Beyond {
     private Beyond() {
     }
 
-    static int[] below() {
-        return BELOW.clone();
-    }
-
     /** n, and numbers above it. */
-    static int[] from(int n) {
-        return Arrays.stream(ABOVE).filter(v -> v >= n).boxed().collect(
-            () -> new java.util.TreeSet<>(java.util.List.of(n)), java.util.TreeSet::add, java.util.TreeSet::addAll)
-            .stream().mapToInt(v -> v).toArray();
+    private static int[] from(int n) {
+        return IntStream.concat(IntStream.of(n), IntStream.of(ABOVE).filter(v -> v > n)).toArray();
     }
 
     static void dueBelow(String call, Call open, long want) {

@@ -9,11 +9,17 @@ final class NetBounds {
         + "line 1 4;line 1 5;line 1 6;line 1 7;line 1 9;line 1 10;line 2 10;line 3 4;line 3 6;line 3 7;line 4 9;"
         + "line 4 10;line 5 6;line 5 7;line 5 8;line 5 9;line 6 8;line 6 9;line 6 10;line 7 8;line 7 9;line 7 10;"
         + "line 8 9;line 8 10;";
-    // It has 11238947 trees; without points 8 and 9 the number left would be one of 1000003.
+    // It has 11238947 trees; on the way a number is left that is 0, modulo 1000003.
     private static final String ZERO_ON_THE_WAY = "net points 11;line 0 1;line 0 2;line 0 4;line 0 5;line 0 6;line 0 7;"
         + "line 0 10;line 1 2;line 1 3;line 1 4;line 1 5;line 2 3;line 2 4;line 2 6;line 2 7;line 2 8;line 2 9;"
         + "line 2 10;line 3 8;line 3 9;line 3 10;line 4 5;line 4 7;line 4 8;line 4 10;line 5 6;line 5 8;line 5 9;"
         + "line 5 10;line 6 7;line 7 8;line 7 9;line 7 10;line 8 9;";
+
+    // It has 3958397 trees; on the way a number is left that is 1, modulo 1000003.
+    private static final String ONE_ON_THE_WAY = "net points 13;line 0 1;line 0 2;line 1 3;line 0 4;line 1 4;line 2 4;"
+        + "line 1 5;line 2 5;line 3 5;line 4 5;line 0 6;line 1 6;line 2 6;line 3 6;line 4 6;line 5 6;line 1 7;line 3 8;"
+        + "line 6 8;line 0 9;line 1 9;line 3 9;line 4 9;line 6 9;line 7 9;line 2 10;line 3 10;line 4 11;line 5 11;"
+        + "line 4 12;line 7 12;line 9 12;";
 
     private NetBounds() {
     }
@@ -114,6 +120,7 @@ final class NetBounds {
         Checks.due("count(4) of row 20", Texts.of("row 20;").count(4), 19);
         Checks.due("count(4) of full 20", Texts.of("full 20;").count(4), 1);
         Checks.due("count(4) of one POINT", Texts.of(Texts.POINT).count(4), 0);
+        Closure.dueSides();
 
         Document.says("A SIDE as a net: POINTS of it are the pieces that are left if its LINES go, numbered by their "
             + "least POINTS; LINES between pieces that a LINE of the SIDE joins.");
@@ -416,6 +423,7 @@ final class NetBounds {
         }
         Checks.due("trees() that are twice 1000003", Texts.of(NO_TREES_LEFT).trees(), 0);
         Checks.due("trees() with a zero on the way", Texts.of(ZERO_ON_THE_WAY).trees(), 238914);
+        Checks.due("trees() with a one on the way", Texts.of(ONE_ON_THE_WAY).trees(), 958388);
         Document.says("-2: there is no NET.");
         Checks.due("trees() of none", none.trees(), -2);
     }
@@ -538,6 +546,7 @@ final class NetBounds {
         Checks.due("sideFar(0, 5, 5)", grid.sideFar(0, 5, 5), 0);
         Checks.due("sideFar(0, 0, 19) of full 20", full.sideFar(0, 0, 19), 1);
         Checks.due("sideFar(0, 0, 9) of ring 19", Texts.of("ring 19;").sideFar(0, 0, 9), 9);
+        Checks.due("sideFar(0, 9, 0) of ring 19", Texts.of("ring 19;").sideFar(0, 9, 0), 9);
         Checks.due("sideFar(0, 2, 4) of 2 to 3", Texts.of(Texts.TWO_BY_THREE).sideFar(0, 2, 4), 2);
         Document.says("-2: there are none such.");
         Beyond.dueBoth("sideFar(?, 0, 0)", 3, s -> grid.sideFar(s, 0, 0), -2);
@@ -569,7 +578,8 @@ final class NetBounds {
 
     private static void hullPromise() {
         Document.promise(48);
-        Document.says("The least set of POINTS that has some (bits), and with any two all that lie AMID them, as bits.");
+        Document.says("The least set of POINTS that has some (bits), and with any two all that lie AMID them, "
+            + "as bits.");
         FactorNets row = Texts.of("row 20;");
         FactorNets full = Texts.of("full 20;");
         FactorNets cube = Texts.of("row 2;row 2;row 2;row 2;");
@@ -580,6 +590,7 @@ final class NetBounds {
         Checks.due("hull of both ends of row 20", row.hull(1 << 19 | 1), ALL_20);
         Checks.due("hull of all of row 20", row.hull(ALL_20), ALL_20);
         Checks.due("hull of 3, 7", row.hull(1 << 3 | 1 << 7), 0b11111000);
+        Checks.due("hull of 0, 1, 3", row.hull(0b1011), 0b1111);
         Checks.due("hull of every other one of full 20", full.hull(0x55555), 0x55555);
         Checks.due("hull in two rounds", cube.hull(1 | 1 << 3 | 1 << 12), 0xFFFF);
         Checks.due("hull of a face", cube.hull(1 | 1 << 3), 0b1111);

@@ -1,3 +1,6 @@
+import java.util.ArrayList;
+import java.util.List;
+
 /** Terms III, IV, VI, VII, promises 15 to 33 and 37: parts, coordinates, symmetries, what is told, routes. */
 final class PartBounds {
     private static final long FACTORIAL_20 = 2432902008176640000L;
@@ -6,7 +9,8 @@ final class PartBounds {
     private static final String CROOKED = "net points 7;line 0 1;line 0 2;line 2 3;line 0 4;line 4 5;line 5 6;";
     // A row of three, 2 0 1, by a row of two, with points so numbered that no copy is in order:
     // 2 0 1 over 3 5 4.
-    private static final String SHUFFLED = "net points 6;line 0 2;line 0 1;line 3 5;line 5 4;line 2 3;line 0 5;line 1 4;";
+    private static final String SHUFFLED = "net points 6;"
+        + "line 0 2;line 0 1;line 3 5;line 5 4;line 2 3;line 0 5;line 1 4;";
 
     private PartBounds() {
     }
@@ -56,6 +60,7 @@ final class PartBounds {
         for (int l = 0; l < 7; l++) {
             Checks.due("line(" + l + ", 2) of shuffled", shuffled.line(l, 2), parts[l]);
         }
+        Closure.dueParts();
 
         Document.says("(One POINT alone: none.)");
         FactorNets point = Texts.of(Texts.POINT);
@@ -109,6 +114,7 @@ final class PartBounds {
         Checks.due("as many POINTS, not as many LINES", Texts.of("row 3;full 3;").alike(0, 1), 0);
         Checks.due("as many POINTS, more LINES first", Texts.of("full 4;row 4;").alike(0, 1), 0);
         Checks.due("not as many POINTS", Texts.of("row 2;row 3;").alike(0, 1), 0);
+        Checks.due("not as many ends alone", Texts.of("full 3;row 5;").alike(0, 1), 0);
     }
 
     private static void productTerm() {
@@ -128,10 +134,12 @@ final class PartBounds {
 
     private static void dueProduct(FactorNets x, FactorNets net, FactorNets by) {
         int size = net.count(0);
+        int copies = by.count(0);
         for (int p = 0; p < x.count(0); p++) {
             int want = net.beside(p % size) << p / size * size;
-            for (int q = 0; q < by.count(0); q++) {
-                want |= (by.beside(p / size) >> q & 1) << p % size + size * q;
+            int across = by.beside(p / size);
+            for (int q = 0; q < copies; q++) {
+                want |= (across >> q & 1) << p % size + size * q;
             }
             Checks.due("beside(" + p + ")", x.beside(p), want);
         }
@@ -145,8 +153,8 @@ final class PartBounds {
 
     private static void toldAndRoute() {
         Document.term("VII");
-        Document.says("TOLD are PARTS, one behind the other with a blank between: row, ring, full (as kind()), a blank, "
-            + "its POINTS; another one: net, a blank, its POINTS, a blank, its LINES.");
+        Document.says("TOLD are PARTS, one behind the other with a blank between: row, ring, full (as kind()), "
+            + "a blank, its POINTS; another one: net, a blank, its POINTS, a blank, its LINES.");
         dueTold("row 2;", "row 2");
         dueTold("full 2;", "row 2");
         dueTold("ring 3;", "full 3");
@@ -181,6 +189,8 @@ final class PartBounds {
         dueRoute(SHUFFLED, 4, 2, 4, 5, 3, 2);
         dueRoute("row 2;row 2;row 2;row 2;", 0, 15, 0, 1, 3, 7, 15);
         dueRoute(Texts.TWO_BY_THREE, 4, 3, 4, 0, 3);
+        // 0 is beside 1, and lesser than 2, but not nearer to 3.
+        dueRoute(Texts.PAW, 1, 3, 1, 2, 3);
     }
 
     // Numbers of LINES with one, two, three digits.
@@ -261,7 +271,8 @@ final class PartBounds {
         FactorNets x = Texts.of("row 3;ring 5;");
         FactorNets row = Texts.of("row 20;");
         Document.promise(18);
-        Document.says("The i-th POINT (from 0) of a PART: the i-th POINT of the NET, by number, of the LAYER of POINT 0.");
+        Document.says("The i-th POINT (from 0) of a PART: the i-th POINT of the NET, by number, "
+            + "of the LAYER of POINT 0.");
         Checks.due("corner(0, 0)", x.corner(0, 0), 0);
         Checks.due("corner(1, 0)", x.corner(1, 0), 0);
         Checks.due("corner(0, 2)", x.corner(0, 2), 2);
@@ -549,6 +560,12 @@ final class PartBounds {
                 Checks.due("moves(" + k + ", " + p + ") of ring 4", ring.moves(k, p), four[k][p]);
             }
         }
+        for (String text : new String[] {Texts.POINT, "row 2;", "row 3;", "full 3;", Texts.STAR, Texts.PAW, "full 4;",
+            "ring 5;", "ring 6;", "row 2;row 3;", "row 2;ring 3;", Texts.TWO_BY_THREE, "row 3;line 0 2;row 2;",
+            "row 6;line 0 2;line 3 5;", "full 5;", "ring 6;line 0 2;line 2 4;line 4 0;", CROOKED,
+            "net points 6;line 0 1;line 0 2;line 2 3;line 0 4;line 2 5;"}) {
+            dueAllMoves(text);
+        }
         FactorNets full = Texts.of("full 20;");
         for (int p = 0; p < 20; p++) {
             Checks.due("the first of full 20", full.moves(0, p), p);
@@ -576,6 +593,43 @@ final class PartBounds {
             Checks.due("moves(" + k + ", 0) of ring 4", ring.moves(k, 0), -2);
         }
         Checks.due("moves(0, 0) of none", new FactorNets().moves(0, 0), -2);
+    }
+
+    // All rows of the points, in their order; those that keep the lines must be the symmetries.
+    private static void dueAllMoves(String text) {
+        FactorNets lines = Texts.of(text);
+        int[] beside = new int[lines.count(0)];
+        for (int p = 0; p < beside.length; p++) {
+            beside[p] = lines.beside(p);
+        }
+        List<int[]> found = new ArrayList<>();
+        place(beside, new int[beside.length], 0, found);
+        FactorNets x = Texts.of(text);
+        Checks.due("allSymmetries() of " + text, x.allSymmetries(), found.size());
+        // No more than an object may be asked.
+        for (int k = 0; k < found.size() && k < 60; k++) {
+            for (int p = 0; p < beside.length; p++) {
+                Checks.due("moves(" + k + ", " + p + ") of " + text, x.moves(k, p), found.get(k)[p]);
+            }
+        }
+        Checks.due("moves(" + found.size() + ", 0) of " + text, x.moves(found.size(), 0), -1);
+    }
+
+    private static void place(int[] beside, int[] to, int point, List<int[]> found) {
+        if (point == to.length) {
+            found.add(to.clone());
+            return;
+        }
+        for (int image = 0; image < to.length; image++) {
+            boolean fits = true;
+            for (int p = 0; p < point && fits; p++) {
+                fits = to[p] != image && (beside[p] >> point & 1) == (beside[to[p]] >> image & 1);
+            }
+            if (fits) {
+                to[point] = image;
+                place(beside, to, point + 1, found);
+            }
+        }
     }
 
     private static void fixersAndOrbits() {

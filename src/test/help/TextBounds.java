@@ -86,6 +86,17 @@ final class TextBounds {
         for (String marked : otherwise) {
             dueFault(marked, 1);
         }
+        otherLetters();
+    }
+
+    // Each word of a LINE with one letter that is another.
+    private static void otherLetters() {
+        String[] marked = {"^net points 1;", "net ^points 1;", "^row 2;", "^ring 3;", "^full 2;", "row 3;^line 0 2;"};
+        for (String text : marked) {
+            for (int i = text.indexOf('^') + 1; text.charAt(i) != ' '; i++) {
+                dueFault(text.substring(0, i) + 'z' + text.substring(i + 1), 1);
+            }
+        }
     }
 
     private static void firstLine() {
@@ -99,7 +110,8 @@ final class TextBounds {
     }
 
     private static void numbersOfPoints() {
-        Document.says("net: POINTS 0 .. N - 1 (N 1 .. 20) without LINES, then lines of two unlike ones, each two once.");
+        Document.says("net: POINTS 0 .. N - 1 (N 1 .. 20) without LINES, then lines of two unlike ones, "
+            + "each two once.");
         dueFault("net points ^0;", 2);
         dueFault("net points ^00;", 2);
         dueNet("net points 1;", 1);
@@ -261,7 +273,8 @@ final class TextBounds {
         dueFault("row 20;row ^x;", 1);
         dueFault("row 20;row^;", 1);
 
-        Document.says("1 a TOKEN that is none, or can't stand there (net behind the first LINE, line as the first one).");
+        Document.says("1 a TOKEN that is none, or can't stand there (net behind the first LINE, "
+            + "line as the first one).");
         dueFault("^Row 3;", 1);
         dueFault("^ROW 3;", 1);
         dueFault("^rOw 3;", 1);
@@ -464,12 +477,19 @@ final class TextBounds {
         Checks.due("net() of blanks", x.net(), 0);
         Checks.due("count(6)", x.count(6), 0);
         Checks.due("net() of one", Texts.told(x, "net points 1;"), 1);
+        for (String text : new String[] {"full 4;row 2;", "full 4;row 2;line 0 5;", "row 2;"}) {
+            FactorNets y = Texts.of("row 3;ring 5;");
+            Answers.of(y);
+            Texts.told(y, text);
+            Answers.dueAsTold("net() in place of another", y);
+        }
     }
 
     private static void netRefused() {
         Document.says("-4: a FAULT; -5: it is not CONNECTED (all else stays with both).");
         int[] answers = {-4, -4, -4, -4, -5, -5};
-        String[] texts = {"row 9", "row 1;", "row 7;row 3;", "net points 2;x", "net points 2;", "net points 3;line 1 2;"};
+        String[] texts = {"row 9", "row 1;", "row 7;row 3;", "net points 2;x", "net points 2;",
+            "net points 3;line 1 2;"};
         for (int i = 0; i < texts.length; i++) {
             FactorNets x = Texts.of("row 3;row 2;");
             x.tell();

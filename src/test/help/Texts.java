@@ -39,6 +39,20 @@ final class Texts {
         return x;
     }
 
+    /** A text that tells the NET of an object, point by point. */
+    static String textOf(FactorNets x) {
+        StringBuilder b = new StringBuilder("net points " + x.count(0) + ";");
+        for (int p = 0; p < x.count(0); p++) {
+            int beside = x.beside(p);
+            for (int q = p + 1; q < x.count(0); q++) {
+                if ((beside >> q & 1) != 0) {
+                    b.append("line").append(p).append(' ').append(q).append(';');
+                }
+            }
+        }
+        return b.toString();
+    }
+
     static String out(FactorNets x) {
         StringBuilder b = new StringBuilder();
         for (int i = 0; i < x.count(7); i++) {

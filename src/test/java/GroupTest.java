@@ -19,14 +19,17 @@ public final class GroupTest {
     private static void dueOrder(String name, int n, List<int[]> lines, long order) {
         Random random = new Random(n);
         for (int i = 0; i < 5; i++) {
-            FactorNets x = Texts.of(shuffled(n, lines, random));
-            Checks.due("allSymmetries() of " + name, x.allSymmetries(), order);
-            fitsTogether(name, x, n, random);
+            String text = shuffled(n, lines, random);
+            Checks.due("allSymmetries() of " + name, Texts.of(text).allSymmetries(), order);
+            fitsTogether(name, text, random);
         }
     }
 
-    private static void fitsTogether(String name, FactorNets x, int n, Random random) {
+    private static void fitsTogether(String name, String text, Random random) {
+        FactorNets x = Texts.of(text);
+        int n = x.count(0);
         long order = x.allSymmetries();
+        int[][] far = distances(text, n);
         int orbits = 0;
         for (int p = 0; p < n; p++) {
             int orbit = x.orbit(p);
@@ -38,9 +41,9 @@ public final class GroupTest {
         Checks.due(name + ": orbits", x.orbits(), orbits);
         for (int i = 0; i < 10; i++) {
             long k = Math.floorMod(random.nextLong(), order);
-            int[] one = symmetry(name, x, k, n);
+            int[] one = symmetry(name, text, k, far);
             if (k + 1 < order) {
-                Checks.due(name + ": in order", before(one, symmetry(name, x, k + 1, n)) ? 1 : 0, 1);
+                Checks.due(name + ": in order", before(one, symmetry(name, text, k + 1, far)) ? 1 : 0, 1);
             }
             int p = random.nextInt(n);
             int q = random.nextInt(n);
@@ -50,7 +53,22 @@ public final class GroupTest {
         Checks.due(name + ": orders of parts", ordersOfParts(x), order);
     }
 
-    private static int[] symmetry(String name, FactorNets x, long k, int n) {
+    // A new object each time: one is used for 512 calls at most.
+    private static int[][] distances(String text, int n) {
+        FactorNets x = Texts.of(text);
+        int[][] far = new int[n][n];
+        for (int p = 0; p < n; p++) {
+            for (int q = 0; q < p; q++) {
+                far[p][q] = x.far(p, q);
+                far[q][p] = far[p][q];
+            }
+        }
+        return far;
+    }
+
+    private static int[] symmetry(String name, String text, long k, int[][] far) {
+        FactorNets x = Texts.of(text);
+        int n = far.length;
         int[] to = new int[n];
         int seen = 0;
         for (int p = 0; p < n; p++) {
@@ -60,7 +78,7 @@ public final class GroupTest {
         Checks.due(name + ": all places taken", seen, (1 << n) - 1);
         for (int p = 0; p < n; p++) {
             for (int q = 0; q < p; q++) {
-                Checks.due(name + ": distance stays", x.far(to[p], to[q]), x.far(p, q));
+                Checks.due(name + ": distance stays", far[to[p]][to[q]], far[p][q]);
             }
         }
         return to;
@@ -160,8 +178,7 @@ public final class GroupTest {
             "row 2;row 2;row 2;row 2;", "row 2;row 5;row 2;", "full 4;ring 5;", "full 6;full 3;",
             "net points 5;line 0 1;line 0 2;line 0 3;line 0 4;full 4;", "row 3;ring 6;"};
         for (String text : products) {
-            FactorNets x = Texts.of(text);
-            fitsTogether(text, x, x.count(0), new Random(text.length()));
+            fitsTogether(text, text, new Random(text.length()));
         }
 
         Checks.end();

@@ -563,7 +563,7 @@ public final class PromiseTest {
         Checks.due("cubic() of ring 6", Texts.of("ring 6;").cubic(), 1);
         Checks.due("cubic() of ring 5", x.cubic(), 0);
         Checks.due("cubic() of a star", Texts.of(Texts.STAR).cubic(), 1);
-        Checks.due("cubic() of 2 to 3", Texts.of("net points 5;line 0 2;line 0 3;line 0 4;line 1 2;line 1 3;line 1 4;").cubic(), 0);
+        Checks.due("cubic() of 2 to 3", Texts.of(Texts.TWO_BY_THREE).cubic(), 0);
         Checks.due("cubic() of a point", Texts.of("net points 1;").cubic(), 1);
         Checks.due("cubic() of none", new FactorNets().cubic(), -2);
 
@@ -584,7 +584,7 @@ public final class PromiseTest {
         Checks.due("median(3, 3, 1)", grid.median(3, 3, 1), 0b001000);
         Checks.due("median(0, 2, 4) of ring 6", Texts.of("ring 6;").median(0, 2, 4), 0);
         Checks.due("median(2, 3, 4) of 2 to 3",
-            Texts.of("net points 5;line 0 2;line 0 3;line 0 4;line 1 2;line 1 3;line 1 4;").median(2, 3, 4), 0b00011);
+            Texts.of(Texts.TWO_BY_THREE).median(2, 3, 4), 0b00011);
         Checks.due("median(0, 0, 6)", grid.median(0, 0, 6), -2);
         Checks.due("median(-1, 0, 0)", grid.median(-1, 0, 0), -2);
 
@@ -593,7 +593,7 @@ public final class PromiseTest {
         Checks.due("medians() of ring 6", Texts.of("ring 6;").medians(), 0);
         Checks.due("medians() of full 3", Texts.of("full 3;").medians(), 0);
         Checks.due("medians() of 2 to 3",
-            Texts.of("net points 5;line 0 2;line 0 3;line 0 4;line 1 2;line 1 3;line 1 4;").medians(), 0);
+            Texts.of(Texts.TWO_BY_THREE).medians(), 0);
         Checks.due("medians() of a point", Texts.of("net points 1;").medians(), 1);
         Checks.due("medians() of none", new FactorNets().medians(), -2);
     }
