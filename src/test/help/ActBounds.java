@@ -1,4 +1,5 @@
 import java.util.function.Consumer;
+import java.util.function.ObjIntConsumer;
 import java.util.function.ToIntFunction;
 
 /** Promises 51 to 61: a line less, a line more, acts, images, what is taken back. */
@@ -55,6 +56,17 @@ final class ActBounds {
         Answers.dueAsTold(call, x);
     }
 
+    /** A check of each product of two rows, or two full nets, that has no more than 20 POINTS. */
+    private static void dueProducts(ObjIntConsumer<String> check) {
+        for (int p = 2; p <= 10; p++) {
+            for (int n = 2; n <= 20 / p; n++) {
+                // Rows have the fewest LINES, full nets the most.
+                check.accept("row " + p + ";row " + n + ";", p * n - 1);
+                check.accept("full " + p + ";full " + n + ";", p * n - 1);
+            }
+        }
+    }
+
     private static void withoutPromise() {
         FactorNets x = Texts.of("row 3;row 2;line 0 5;");
         Document.promise(51);
@@ -66,6 +78,11 @@ final class ActBounds {
         Checks.due("without(4) of ring 5", Texts.of("ring 5;").without(4), 1);
         FactorNets cube = Texts.of("row 2;row 2;row 2;row 2;line 0 15;");
         Checks.due("without(0 15) of a cube and a LINE", cube.without(cube.between(0, 15)), 4);
+        dueProducts((text, last) -> {
+            FactorNets more = Texts.of(text);
+            more.join(0, last);
+            Checks.due("without(0 " + last + ") of " + text + " and a LINE", more.without(more.between(0, last)), 2);
+        });
         dueIdle("without()", x, y -> y.without(y.between(0, 5)));
         Checks.due("without() at 20 acts", weary().without(0), -1);
 
@@ -95,6 +112,11 @@ final class ActBounds {
         cube.cut(0);
         Checks.due("with(0, 1) of a cube less a LINE", cube.with(0, 1), 4);
         Checks.due("with(0, 19) of row 20", Texts.of("row 20;").with(0, 19), 1);
+        dueProducts((text, last) -> {
+            FactorNets less = Texts.of(text);
+            less.cut(0);
+            Checks.due("with(0, 1) of " + text + " less a LINE", less.with(0, 1), 2);
+        });
         dueIdle("with()", row, y -> y.with(0, 3));
         Checks.due("with(0, 2) at 20 acts", weary().with(0, 2), 1);
 
@@ -123,8 +145,13 @@ final class ActBounds {
         Checks.due("loosest() of a cube and a LINE", cube.loosest(), cube.between(0, 15));
         // Without the LINE 0 5, or 0 1, the net is a grid: of those the least.
         Checks.due("loosest() of two that leave two PARTS", Texts.of("row 3;row 2;line 0 5;").loosest(), 0);
-        FactorNets last = Texts.of("row 5;row 4;line 14 18;");
-        Checks.due("loosest() of a late LINE", last.loosest(), last.between(14, 18));
+        FactorNets late = Texts.of("row 5;row 4;line 14 18;");
+        Checks.due("loosest() of a late LINE", late.loosest(), late.between(14, 18));
+        dueProducts((text, last) -> {
+            FactorNets more = Texts.of(text);
+            more.join(0, last);
+            Checks.due("PARTS without loosest() of " + text + " and a LINE", more.without(more.loosest()), 2);
+        });
         dueIdle("loosest()", cube, FactorNets::loosest);
         cube.cut(cube.between(0, 15));
         Checks.due("loosest() behind an act", cube.loosest(), 0);
