@@ -9,12 +9,14 @@ import java.nio.file.Path;
 import java.util.ArrayList;
 import java.util.HashSet;
 import java.util.List;
+import java.util.Map;
 import java.util.Set;
+import java.util.TreeMap;
 import java.util.TreeSet;
 import java.util.regex.Matcher;
 import java.util.regex.Pattern;
 
-/** What can be checked of LANGUAGE.md by looking: the face, the words, the sizes, the room. */
+/** What can be checked of LANGUAGE.md: the face, the words, the sizes, the compiled methods, the room. */
 public final class RulesTest {
     private static int wrong = 0;
 
@@ -28,6 +30,7 @@ public final class RulesTest {
         face(Files.readString(Path.of("../shared/DOC.md")));
         words(source);
         sizes(source);
+        compiled();
         room();
         System.out.println(wrong == 0 ? "the rules are kept" : wrong + " rules are not kept");
         if (wrong != 0) {
@@ -62,9 +65,14 @@ public final class RulesTest {
         if (due.size() != 60 || !due.equals(found)) {
             fail("the face is " + found + ", due is " + due);
         }
+        int modifiers = FactorNets.class.getModifiers();
+        if (!Modifier.isPublic(modifiers) || !Modifier.isFinal(modifiers) || FactorNets.NONE != -1) {
+            fail("a public final class with NONE = -1 is due");
+        }
         for (Field field : FactorNets.class.getDeclaredFields()) {
             boolean constant = field.getName().equals("NONE");
-            if (constant != Modifier.isPublic(field.getModifiers()) || !constant && !Modifier.isPrivate(field.getModifiers())) {
+            boolean shown = Modifier.isPublic(field.getModifiers());
+            if (constant != shown || !constant && !Modifier.isPrivate(field.getModifiers())) {
                 fail("a field that should be otherwise: " + field);
             }
         }
@@ -163,6 +171,66 @@ public final class RulesTest {
                 start = -1;
             }
         }
+    }
+
+    private static final Set<String> LIBRARY = Set.of("java.lang.Object.<init>()V", "java.lang.Integer.bitCount(I)I",
+        "java.lang.Math.max(II)I", "java.lang.Math.min(II)I", "java.lang.Math.max(JJ)J", "java.util.Arrays.fill([II)V",
+        "java.util.Arrays.fill([JJ)V", "java.lang.String.length()I", "java.lang.String.charAt(I)C",
+        "java.lang.System.arraycopy(Ljava/lang/Object;ILjava/lang/Object;II)V");
+    private static final Set<Integer> MAKING = Set.of(ClassFile.NEW, ClassFile.NEW_ARRAY,
+        ClassFile.NEW_ARRAY_OF_OBJECTS, ClassFile.NEW_ARRAY_OF_ARRAYS);
+    private static final Set<Integer> BARRED = Set.of(ClassFile.THROW, ClassFile.CAST, ClassFile.LOCK,
+        ClassFile.CALL_MADE_LATE);
+
+    // Rules 4, 6, 8, 11 and 12, as the compiled methods keep them.
+    private static void compiled() throws Exception {
+        Map<String, ClassFile.Body> bodies = new TreeMap<>(ClassFile.of(FactorNets.class).bodies);
+        for (Class<?> inside : FactorNets.class.getDeclaredClasses()) {
+            bodies.putAll(ClassFile.of(inside).bodies);
+        }
+        for (String name : bodies.keySet()) {
+            instructions(name, bodies.get(name));
+            for (String called : bodies.get(name).calls) {
+                if (!bodies.containsKey(called) && !LIBRARY.contains(called)) {
+                    fail(name + " calls " + called);
+                }
+            }
+            depth(name, bodies, new ArrayList<>());
+        }
+    }
+
+    private static void instructions(String name, ClassFile.Body body) {
+        if (body.handlers != 0) {
+            fail(name + " catches");
+        }
+        for (int instruction : body.instructions) {
+            if (BARRED.contains(instruction)) {
+                fail(name + " has the instruction " + instruction);
+            }
+            if (MAKING.contains(instruction) && !name.contains(".<init>(")) {
+                fail(name + " makes an object");
+            }
+        }
+    }
+
+    private static void depth(String name, Map<String, ClassFile.Body> bodies, List<String> open) {
+        open.add(name);
+        if (open.size() > 8) {
+            fail("calls go too deep: " + open);
+        }
+        ClassFile.Body body = bodies.get(name);
+        for (String called : body == null ? List.<String>of() : body.calls) {
+            if (called.equals(name)) {
+                if (!Modifier.isPrivate(body.flags) || !Modifier.isStatic(body.flags)) {
+                    fail("calls itself, but is not private and static: " + name);
+                }
+            } else if (open.contains(called)) {
+                fail("methods that call one another: " + open + " " + called);
+            } else if (open.size() <= 8) {
+                depth(called, bodies, open);
+            }
+        }
+        open.remove(open.size() - 1);
     }
 
     // Nothing is made by a call: the rows of one object are all that a run takes.
